@@ -1652,6 +1652,7 @@ public final class Prorates {
             for (int k = 0; k < count; k++) {
                 held[k] = provisoHolding(k);
                 weigh(k);
+                factor[k] = factorOf(k);
                 if (k < flown) {
                     by[k] = FLOWN;
                     pool -= share[k];
@@ -1675,7 +1676,6 @@ public final class Prorates {
                 kind[k] = row[3];
                 value[k] = row[3] == PART ? (long) book.fareOf(ticket) * row[4] / 100 : row[4];
             }
-            factor[k] = factorOf(k);
         }
 
         private int provisoHolding(int k) {
