@@ -1220,7 +1220,7 @@ public final class Prorates {
         private final int[][] distances = new int[MAX_PLACES][MAX_PLACES];
         /** Miles and weight. */
         private final int[][] bandRows = new int[MAX_BANDS][2];
-        /** Carrier, two places, kind, amount, with whom. */
+        /** Carrier, two places, kind, amount, with whom: numbered as proviso() is asked for them. */
         private final int[][] provisoRows = new int[MAX_PROVISOS][6];
         /** Carrier, two places, amount. */
         private final int[][] baseRows = new int[MAX_BASES][4];
