@@ -6,17 +6,29 @@ final class Check {
     static final int OUT_OF_BOUNDS = -900000001;
     static final int NO_SUCH = -900000002;
 
+    /** Legs of 1, 1 and 2 miles, one behind the other; ten lines. */
+    static final String ROAD = "place a;place b;place c;place d;carrier x;carrier y;carrier z;"
+        + "leg a b 1;leg b c 1;leg c d 2;";
+    /** Behind that: shares of 250, 250 and 500, without provisos. */
+    static final String TRIP = "ticket t 1000 miles a x b y c z d;";
+
     private final String test;
+    private String about = "";
     private int wrong = 0;
 
     Check(String test) {
         this.test = test;
     }
 
+    /** What is said ahead of each answer that isn't as due, from here on. */
+    void about(String words) {
+        about = words;
+    }
+
     void due(String what, long got, long want) {
         if (got != want) {
             wrong++;
-            System.out.println(test + ": " + what + " answered " + got + ", due is " + want);
+            System.out.println(test + ": " + about + what + " answered " + got + ", due is " + want);
         }
     }
 
@@ -25,6 +37,37 @@ final class Check {
         for (int i = 0; i < got.length && i < want.length; i++) {
             due(what + " [" + i + "]", got[i], want[i]);
         }
+    }
+
+    /** A text that ends with the fault at the place of the sign |, which is no part of it. */
+    void fault(int kind, String marked) {
+        int place = marked.indexOf('|');
+        String text = marked.substring(0, place) + marked.substring(place + 1);
+        Prorates x = new Prorates();
+        due("text of " + marked, tell(x, text), -1);
+        due("fault of " + marked, x.fault(0), kind);
+        due("place of the fault of " + marked, x.fault(1), place);
+        due("lines behind " + marked, x.count(0), 0);
+    }
+
+    /** A text without a fault. */
+    Prorates good(int lines, String text) {
+        Prorates x = new Prorates();
+        due("text of " + text, tell(x, text), lines);
+        due("fault of " + text, x.fault(0), 0);
+        due("place of no fault of " + text, x.fault(1), -1);
+        due("count(0) of " + text, x.count(0), lines);
+        return x;
+    }
+
+    /** A new object with one ticket on ROAD: its shares, by, rounds and cents left over. */
+    Prorates parted(String provisos, String ticket, int[] shares, int[] by, int rounds, int left) {
+        Prorates x = told(ROAD + provisos + ticket);
+        dueAll(provisos + " shares", shares(x, 0), shares);
+        dueAll(provisos + " by", coupons(x, 0, 6), by);
+        due(provisos + " rounds", x.rounds(0), rounds);
+        due(provisos + " left", x.left(0), left);
+        return x;
     }
 
     void end() {

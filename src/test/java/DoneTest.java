@@ -1,9 +1,8 @@
 /** Promises 21 to 31: what is done by call, undone, billed, cleared and paid. */
 public final class DoneTest {
     private static final Check check = new Check("DoneTest");
-    private static final String ROAD = "place a;place b;place c;place d;carrier x;carrier y;carrier z;"
-        + "leg a b 1;leg b c 1;leg c d 2;";
-    private static final String TRIP = "ticket t 1000 miles a x b y c z d;";
+    private static final String ROAD = Check.ROAD;
+    private static final String TRIP = Check.TRIP;
 
     public static void main(String[] args) {
         fly();

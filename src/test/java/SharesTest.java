@@ -1,10 +1,8 @@
 /** Promises 12 to 20: how fares are prorated, and what shares would be if something were otherwise. */
 public final class SharesTest {
     private static final Check check = new Check("SharesTest");
-    /** Legs of 1, 1 and 2 miles, one behind the other. */
-    private static final String ROAD = "place a;place b;place c;place d;carrier x;carrier y;carrier z;"
-        + "leg a b 1;leg b c 1;leg c d 2;";
-    private static final String TRIP = "ticket t 1000 miles a x b y c z d;";
+    private static final String ROAD = Check.ROAD;
+    private static final String TRIP = Check.TRIP;
 
     public static void main(String[] args) {
         straightShares();
@@ -31,14 +29,8 @@ public final class SharesTest {
         check.end();
     }
 
-    /** A new object with one ticket: its shares, by, rounds and cents left over. */
     private static Prorates parted(String provisos, String ticket, int[] shares, int[] by, int rounds, int left) {
-        Prorates x = Check.told(ROAD + provisos + ticket);
-        check.dueAll(provisos + " shares", Check.shares(x, 0), shares);
-        check.dueAll(provisos + " by", Check.coupons(x, 0, 6), by);
-        check.due(provisos + " rounds", x.rounds(0), rounds);
-        check.due(provisos + " left", x.left(0), left);
-        return x;
+        return check.parted(provisos, ticket, shares, by, rounds, left);
     }
 
     private static int[] row(int... numbers) {

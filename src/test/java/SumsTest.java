@@ -1,8 +1,7 @@
 /** Promises 32 to 38: who earns what, who may fly, and all money. */
 public final class SumsTest {
     private static final Check check = new Check("SumsTest");
-    private static final String ROAD = "place a;place b;place c;place d;carrier x;carrier y;carrier z;"
-        + "leg a b 1;leg b c 1;leg c d 2;";
+    private static final String ROAD = Check.ROAD;
 
     public static void main(String[] args) {
         cheapestIsNotItsOwn();

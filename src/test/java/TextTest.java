@@ -21,23 +21,12 @@ public final class TextTest {
         check.end();
     }
 
-    /** A text that ends with the fault at the place of the sign |, which is no part of it. */
     private static void fault(int kind, String marked) {
-        int place = marked.indexOf('|');
-        String text = marked.substring(0, place) + marked.substring(place + 1);
-        Prorates x = new Prorates();
-        check.due("text of " + marked, Check.tell(x, text), -1);
-        check.due("fault of " + marked, x.fault(0), kind);
-        check.due("place of the fault of " + marked, x.fault(1), place);
-        check.due("lines behind " + marked, x.count(0), 0);
+        check.fault(kind, marked);
     }
 
     private static void good(int lines, String text) {
-        Prorates x = new Prorates();
-        check.due("text of " + text, Check.tell(x, text), lines);
-        check.due("fault of " + text, x.fault(0), 0);
-        check.due("place of no fault of " + text, x.fault(1), -1);
-        check.due("count(0) of " + text, x.count(0), lines);
+        check.good(lines, text);
     }
 
     private static void newObject() {
