@@ -32,6 +32,8 @@ public final class LanguageTest {
             for (String word : FORBIDDEN) {
                 check.due(word + " in: " + line.strip(), line.contains(word) ? 1 : 0, 0);
             }
+            boolean made = line.matches(".*\\bnew \\w+[(\\[].*") && !line.matches(" +private .* = new .*;") && !line.contains("throw new ");
+            check.due("made by a call: " + line, made ? 1 : 0, 0);
             boolean imported = line.startsWith("import ") && !line.equals("import java.util.NoSuchElementException;");
             check.due("an import: " + line, imported ? 1 : 0, 0);
             check.due("a sign beyond 127 in: " + line, line.chars().allMatch(c -> c < 128) ? 0 : 1, 0);
